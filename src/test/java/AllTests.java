@@ -1,0 +1,8 @@
+/** Runs every test of the project. */
+public final class AllTests {
+    public static void main(String[] args) {
+        Check check = new Check();
+        PromiseTests.runAll(check);
+        check.finish();
+    }
+}
