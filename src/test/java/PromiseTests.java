@@ -484,6 +484,8 @@ final class PromiseTests {
         x.dropCredit(0);
         x.addCredit('A', 4, 10, 0);
         check.equal(x.bestEquivalence(), 1);
+        x.addCredit('B', 5, 10, 0);
+        check.equal(x.bestEquivalence(), 0);
         check.fails(ELEMENT, x::refusal);
     }
 
@@ -782,6 +784,11 @@ final class PromiseTests {
         for (int b = 0; b < due.length; b++) {
             check.equal(x.points(b), due[b]);
         }
+        CreditTransfer deep = desk("[1:[1:[1:a5]]]");
+        deep.addCredit('a', 5, 10, 0);
+        for (int b = 0; b < 4; b++) {
+            check.equal(deep.points(b), 5);
+        }
         x.dropCredit(1);
         int[] then = {18, 6, 6, 0, 12, 7};
         for (int b = 0; b < then.length; b++) {
@@ -800,7 +807,7 @@ final class PromiseTests {
         check.fails(STATE, () -> x.lacks(0));
         check.fails(INDEX, () -> x.lacks(4));
         check.fails(INDEX, () -> x.lacks(-1));
-        // A leaf can lack a part of its points only by a credit of no points, as fewer points are better.
+        // Fewer points are better, so that a leaf that is not met gets none of those that it could.
         x.addCredit('c', 2, 10, 0);
         check.equal(x.lacks(2), 9);
     }
@@ -998,6 +1005,9 @@ final class PromiseTests {
         check.equal(x.meanGrade(), 11.0);
         x.addCredit('c', 5, 14, 0);
         check.equal(x.meanGrade(), (double) (6 * 11 + 5 * 14) / (double) 11);
+        CreditTransfer least = desk("a1");
+        least.addCredit('a', 1, 17, 0);
+        check.equal(least.meanGrade(), 17.0);
         CreditTransfer y = desk("b1");
         y.addCredit('A', 1, 10, 0);
         y.addEquivalence('A', ' ', 'a', 'b');
