@@ -574,7 +574,7 @@ public final class CreditTransfer {
             this.blocks = blocks;
             leaves = leavesOf(blocks);
             rootSet = rootSetOf(blocks);
-            metSets = new int[1 << leaves.length];
+            metSets = new int[1 << Math.min(leaves.length, MOST_LEAVES)];
             metRoots = new int[metSets.length];
             for (int set = 0; set < metSets.length; set++) {
                 metSets[set] = metBlocks(blocks, leaves, set);

@@ -3,6 +3,9 @@ public final class AllTests {
     public static void main(String[] args) {
         Check check = new Check();
         PromiseTests.runAll(check);
+        CreditSentenceTests.runAll(check);
+        ProgramSentenceTests.runAll(check);
+        EdgeTests.runAll(check);
         FaceTests.runAll(check);
         TextTests.runAll(check);
         ModelTests.runAll(check);

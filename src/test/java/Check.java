@@ -47,10 +47,19 @@ final class Check {
     void tellWrong(String what) {
         wrong++;
         if (wrong <= MOST_SHOWN) {
-            StackTraceElement[] trace = new Throwable().getStackTrace();
-            String where = trace.length > 2 ? trace[2].getFileName() + ":" + trace[2].getLineNumber() : "";
-            System.out.println(test + " (" + where + "): " + what);
+            System.out.println(test + " (" + where() + "): " + what);
         }
+    }
+
+    /** The line of the test itself, not of what the tests share. */
+    private static String where() {
+        for (StackTraceElement step : new Throwable().getStackTrace()) {
+            String file = step.getFileName();
+            if (!"Check.java".equals(file) && !"DeskTests.java".equals(file)) {
+                return file + ":" + step.getLineNumber();
+            }
+        }
+        return "";
     }
 
     void finish() {

@@ -1,20 +1,7 @@
-import java.util.NoSuchElementException;
-
 /** For each promise of the document: ordinary inputs, the edges that it names, and wrong inputs. */
-final class PromiseTests {
-    private static final Class<IllegalArgumentException> ARGUMENT = IllegalArgumentException.class;
-    private static final Class<IllegalStateException> STATE = IllegalStateException.class;
-    private static final Class<IndexOutOfBoundsException> INDEX = IndexOutOfBoundsException.class;
-    private static final Class<NoSuchElementException> ELEMENT = NoSuchElementException.class;
-    private static final Class<UnsupportedOperationException> REFUSED = UnsupportedOperationException.class;
-    private static final Class<ArithmeticException> ARITHMETIC = ArithmeticException.class;
-
-    private static final int[] WRONG_INDICES = {-1, 9, Integer.MIN_VALUE, Integer.MAX_VALUE};
-
-    private final Check check;
-
+final class PromiseTests extends DeskTests {
     private PromiseTests(Check check) {
-        this.check = check;
+        super(check);
     }
 
     static void runAll(Check check) {
@@ -114,67 +101,6 @@ final class PromiseTests {
         save();
         check.begin("promise 34");
         restore();
-    }
-
-    private static void put(CreditTransfer x, String text) {
-        for (int i = 0; i < text.length(); i++) {
-            x.append(text.charAt(i));
-        }
-    }
-
-    private static CreditTransfer desk(String program) {
-        CreditTransfer x = new CreditTransfer();
-        put(x, program);
-        x.readProgram();
-        return x;
-    }
-
-    private void readsTo(CreditTransfer x, String text, int blocks) {
-        put(x, text);
-        check.equal(x.readProgram(), blocks);
-        check.equal(x.faultPosition(), -1);
-    }
-
-    private void hasFault(String text, int position) {
-        CreditTransfer x = new CreditTransfer();
-        put(x, text);
-        check.fails(ARGUMENT, x::readProgram);
-        check.equal(x.faultPosition(), position);
-        check.fails(ELEMENT, x::refusal);
-        check.equal(x.account(2), 0);
-        readsTo(x, "a1", 1);
-    }
-
-    private void isRefused(String text, int reason) {
-        CreditTransfer x = new CreditTransfer();
-        put(x, text);
-        check.fails(REFUSED, x::readProgram);
-        check.equal(x.refusal(), reason);
-        check.equal(x.faultPosition(), -1);
-        check.equal(x.account(2), 0);
-        check.fails(STATE, x::undo);
-        readsTo(x, "a1", 1);
-        check.equal(x.refusal(), reason);
-    }
-
-    private void isMetSet(CreditTransfer x, boolean... due) {
-        for (int b = 0; b < due.length; b++) {
-            check.equal(x.isMet(b), due[b]);
-        }
-    }
-
-    private void takers(CreditTransfer x, int... due) {
-        for (int i = 0; i < due.length; i++) {
-            check.equal(x.credit(i, 3), due[i]);
-        }
-    }
-
-    private void layersAre(CreditTransfer x, int block, int... due) {
-        check.equal(x.layers(block), due.length / 2);
-        for (int i = 0; i < due.length; i++) {
-            check.equal(x.why(block, i / 2, i % 2), due[i]);
-        }
-        check.fails(ELEMENT, () -> x.why(block, due.length / 2, 0));
     }
 
     private void newObject() {
@@ -358,13 +284,6 @@ final class PromiseTests {
         check.fails(ARGUMENT, () -> x.equivalent(1, -1));
         check.fails(INDEX, () -> x.equivalent(2, 0));
         check.fails(INDEX, () -> x.equivalent(-1, 0));
-    }
-
-    private void credits(CreditTransfer x, String... due) {
-        check.equal(x.account(0), due.length);
-        for (int i = 0; i < due.length; i++) {
-            check.equal(x.code(i) + " " + x.credit(i, 0) + " " + x.credit(i, 1) + " " + x.credit(i, 2), due[i]);
-        }
     }
 
     private void apply() {
@@ -640,12 +559,6 @@ final class PromiseTests {
         put(x, "a1a1a1a1a1");
         check.fails(REFUSED, x::readProgram);
         check.equal(x.refusal(), 4);
-    }
-
-    private void blockIs(CreditTransfer x, int block, int... due) {
-        for (int what = 0; what < due.length; what++) {
-            check.equal(x.block(block, what), due[what]);
-        }
     }
 
     private void block() {
