@@ -910,7 +910,7 @@ public final class CreditTransfer {
                 got[leaf] = 0;
             }
             worth = NOTHING_FOUND;
-            giveFrom(0);
+            giveFrom(this, 0);
         }
 
         /** The block of the leaf that gets a credit, or NONE. */
@@ -983,22 +983,22 @@ public final class CreditTransfer {
         }
 
         /** Tries the uses in the order in which the first of equal ones is the best; one level a credit. */
-        private void giveFrom(int credit) {
-            if (credit < 0 || credit >= creditCount) {
-                weigh();
+        private static void giveFrom(BestUse use, int credit) {
+            if (credit < 0 || credit >= use.creditCount) {
+                use.weigh();
                 return;
             }
-            int points = desk.credits[credit].points;
-            for (int leaf = 0; leaf < leafCount; leaf++) {
-                if (isInSet(accepting[credit], leaf)) {
-                    tried[credit] = leaf;
-                    got[leaf] += points;
-                    giveFrom(credit + 1);
-                    got[leaf] -= points;
+            int points = use.desk.credits[credit].points;
+            for (int leaf = 0; leaf < use.leafCount; leaf++) {
+                if (isInSet(use.accepting[credit], leaf)) {
+                    use.tried[credit] = leaf;
+                    use.got[leaf] += points;
+                    giveFrom(use, credit + 1);
+                    use.got[leaf] -= points;
                 }
             }
-            tried[credit] = NONE;
-            giveFrom(credit + 1);
+            use.tried[credit] = NONE;
+            giveFrom(use, credit + 1);
         }
 
         private void weigh() {

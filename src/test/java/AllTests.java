@@ -7,6 +7,7 @@ public final class AllTests {
         ProgramSentenceTests.runAll(check);
         EdgeTests.runAll(check);
         FaceTests.runAll(check);
+        ReadmeTests.runAll(check);
         TextTests.runAll(check);
         ModelTests.runAll(check);
         check.finish();
